@@ -1,5 +1,9 @@
 import java.util.NoSuchElementException;
 
+/**
+ * The referee of the document's game. The methods of the face look at their arguments and throw; what lies below them
+ * is called with arguments that fit, and never throws.
+ */
 public final class EnclosureReferee {
     public static final int PASS = -1;
 
@@ -20,6 +24,8 @@ public final class EnclosureReferee {
     private static final int MAX_STONES_AROUND = 2;
     private static final int MAX_DEPTH = 2;
     private static final int MAX_EMPTY_AT_MAX_DEPTH = 6;
+    /** No outcome comes near it: 49 cells, each captured at most once as a stone, and bonuses up to 20. */
+    private static final int BEYOND_SCORES = 1000000;
 
     private static final int CLASH_BLOCKS = 0;
     private static final int CLASH_IS_NOTHING = 1;
@@ -278,10 +284,10 @@ public final class EnclosureReferee {
         }
         Position position = game.latest();
         int bestCell = PASS;
-        int greatest = Integer.MIN_VALUE;
+        int greatest = -BEYOND_SCORES;
         for (int cell = 0; cell < game.board.size; cell++) {
             int value = position.admits(cell)
-                    ? foresight.leastValue(game, position, player, cell, depth) : Integer.MIN_VALUE;
+                    ? foresight.leastValue(game, position, player, cell, depth) : -BEYOND_SCORES;
             if (value > greatest) {
                 greatest = value;
                 bestCell = cell;
@@ -461,9 +467,9 @@ public final class EnclosureReferee {
         private int captured0;
         private int captured1;
 
-        void clear(Board board) {
+        void clear(long all) {
             for (int state = 0; state < STATES; state++) {
-                sets[state] = state == EMPTY ? board.all : 0;
+                sets[state] = state == EMPTY ? all : 0;
             }
             captured0 = 0;
             captured1 = 0;
@@ -511,7 +517,7 @@ public final class EnclosureReferee {
         }
 
         long own(int player) {
-            return in(STONE + player) | in(AREA + player);
+            return player == 0 ? sets[STONE] | sets[AREA] : sets[STONE + 1] | sets[AREA + 1];
         }
 
         /** The cells of which the player's regions consist. */
@@ -739,14 +745,14 @@ public final class EnclosureReferee {
             for (int round = 0; round < rounds.length; round++) {
                 rounds[round] = new Round();
             }
-            beginning.clear(board);
+            beginning.clear(board.all);
         }
 
         void begin(int width, int height, int handicap) {
             if (board.width != width || board.height != height) {
                 board = new Board(width, height);
             }
-            beginning.clear(board);
+            beginning.clear(board.all);
             for (int stone = 0; stone < handicap; stone++) {
                 beginning.give(handicapCell(stone), STONE + 1);
             }
@@ -770,6 +776,7 @@ public final class EnclosureReferee {
             }
         }
 
+        /** The rounds of the other game that were taken back are left out: latest() never comes to them. */
         void copyFrom(Game other) {
             board = other.board;
             rule = other.rule;
@@ -900,10 +907,10 @@ public final class EnclosureReferee {
         private final Round last = new Round();
 
         /** The guarantee of a choice; it and greatestValue call one another until the depth is used up. */
-        int leastValue(Game game, Position position, int player, int choice, int depth) {
+        private int leastValue(Game game, Position position, int player, int choice, int depth) {
             Round round = depth > 1 ? next : last;
             int stateAfterClash = game.stateAfterClash(position);
-            int least = Integer.MAX_VALUE;
+            int least = BEYOND_SCORES;
             for (int reply = PASS; reply < game.board.size; reply++) {
                 if (position.admits(reply)) {
                     int first = player == 0 ? choice : reply;
@@ -919,7 +926,7 @@ public final class EnclosureReferee {
         }
 
         private int greatestValue(Game game, Position position, int player, int depth) {
-            int greatest = Integer.MIN_VALUE;
+            int greatest = -BEYOND_SCORES;
             for (int choice = PASS; choice < game.board.size; choice++) {
                 if (position.admits(choice)) {
                     greatest = Math.max(greatest, leastValue(game, position, player, choice, depth));
@@ -958,12 +965,6 @@ public final class EnclosureReferee {
 
     /** The input buffer, and the choices that were found in it when it was read last. */
     private static final class Input {
-        private static final int CHOICE_0 = 0;
-        private static final int DIGIT_0 = 1;
-        private static final int CHOICE_1 = 2;
-        private static final int DIGIT_1 = 3;
-        private static final int SEMICOLON = 4;
-
         int length;
         int choicesRead;
         private final char[] signs = new char[MAX_SIGNS];
@@ -985,34 +986,36 @@ public final class EnclosureReferee {
         /** Finds the choices; answers the error position or NO_ERROR. */
         int parse(Board board) {
             choicesRead = 0;
-            int expected = CHOICE_0;
+            int choicesInRound = 0;
             int column = 0;
+            boolean needsDigit = false;
             for (int at = 0; at < length && at < MAX_SIGNS; at++) {
                 char sign = signs[at];
-                if (expected == SEMICOLON) {
-                    if (sign != ';') {
-                        return at;
-                    }
-                    expected = CHOICE_0;
-                } else if (expected == DIGIT_0 || expected == DIGIT_1) {
+                if (needsDigit) {
                     int row = sign - '1';
                     if (row < 0 || row >= board.height) {
                         return at;
                     }
                     addChoice(board.cellAt(column, row));
-                    expected++;
+                    choicesInRound++;
+                    needsDigit = false;
+                } else if (choicesInRound == 2) {
+                    if (sign != ';') {
+                        return at;
+                    }
+                    choicesInRound = 0;
                 } else if (sign == '-') {
                     addChoice(PASS);
-                    expected += 2;
+                    choicesInRound++;
                 } else {
                     column = sign - 'a';
                     if (column < 0 || column >= board.width) {
                         return at;
                     }
-                    expected++;
+                    needsDigit = true;
                 }
             }
-            return expected == CHOICE_0 ? NO_ERROR : length;
+            return choicesInRound == 0 && !needsDigit ? NO_ERROR : length;
         }
 
         private void addChoice(int choice) {

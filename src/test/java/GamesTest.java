@@ -21,6 +21,7 @@ public final class GamesTest {
         largerRegionWins();
         sameSizeStays();
         struggle();
+        furtherCaptures();
         undo();
         undoKeeps();
         isOver();
@@ -56,6 +57,10 @@ public final class GamesTest {
         CHECK.same("handicap 4 on 4 by 4", Boards.drawn(x), "..../.OO./.OO./....");
         CHECK.same("start(7, 7, 0)", x.start(7, 7, 0), 49);
         CHECK.same("no stone", x.cells(0), (1L << 49) - 1);
+        CHECK.same("start(7, 6, 0)", x.start(7, 6, 0), 42);
+        CHECK.same("height 6", x.count(2), 6);
+        CHECK.same("start(4, 6, 0)", x.start(4, 6, 0), 24);
+        CHECK.same("width 4", x.count(1), 4);
         CHECK.same("start(4, 7, 0)", x.start(4, 7, 0), 28);
         CHECK.same("nothing of the wider board", x.cells(0), (1L << 28) - 1);
     }
@@ -213,6 +218,9 @@ public final class GamesTest {
         EnclosureReferee z = new EnclosureReferee();
         CHECK.same("a cell at the edge", Boards.play(z, "b1 e5, a2 e1"), 0);
         CHECK.same("is not enclosed", z.cell(0, 0), 0);
+        EnclosureReferee v = Boards.started(7, 5, 0);
+        CHECK.same("cells at all four edges", Boards.play(v, "b1 d1, c2 a5, d5 a2, c4 e3, b3 -, b5 -, g2 -, f3 -, g4 -"), 0);
+        CHECK.same("are not enclosed", Boards.drawn(v), ".X.O.../O.X...X/.X..OX./..X...X/OX.X...");
         EnclosureReferee w = Boards.started(4, 4, 0);
         CHECK.same("the edge of a row", Boards.play(w, "d1 -, c2 -, a3 -, d3 -, b2 -"), 0);
         CHECK.same("does not touch the next row", Boards.drawn(w), "...X/.XX./X..X/....");
@@ -250,6 +258,24 @@ public final class GamesTest {
         CHECK.same("the next end of it", Boards.drawn(x), "O..../.###./#x.o#/.###./.....");
         CHECK.same("a stone in c3 is captured too", Boards.play(x, "c3 -"), 3 * 8);
         CHECK.same("the last end of it", Boards.drawn(x), "O..../.###./#xxo#/.###./.....");
+    }
+
+    /** b3 and c3 capture one another; then b3 does not hold against player 0, who takes c3 back. */
+    private static void furtherCaptures() {
+        EnclosureReferee x = new EnclosureReferee();
+        Boards.play(x, "d3 d3, b4 c5, c4 c4, a3 a3, a4 e1, d1 d1, c3 d2, c2 c2");
+        CHECK.same("before", Boards.drawn(x), "...#O/..#O./#.X#./XX#../..O..");
+        CHECK.same("two cells, then one", Boards.play(x, "b2 b3"), 3);
+        CHECK.same("after", Boards.drawn(x), "...#O/.X#O./#xx#./XX#../..O..");
+        CHECK.same("two waves", x.round(8, 3), 2);
+        CHECK.same("the wave of b3", x.since(11, 1), 0);
+        CHECK.same("the wave of c3", x.since(12, 1), 1);
+        CHECK.same("score of 0", x.player(0, 0), 2 + 2);
+        CHECK.same("score of 1", x.player(1, 0), 2);
+        CHECK.refused("c3", UnsupportedOperationException.class, () -> x.play(12, 0));
+        CHECK.same("the report of c3", Boards.report(x), "1 9, 2 12, 13 8, 21 1");
+        CHECK.refused("b3", UnsupportedOperationException.class, () -> x.play(0, 11));
+        CHECK.same("the report of b3", Boards.report(x), "1 9, 3 11, 13 8, 20 2");
     }
 
     private static void undo() {
@@ -298,6 +324,9 @@ public final class GamesTest {
         CHECK.same("both pass", x.isOver(), true);
         x.undo();
         CHECK.same("taken back", x.isOver(), false);
+        EnclosureReferee w = new EnclosureReferee();
+        Boards.play(w, "- -");
+        CHECK.same("both pass in the first round", w.isOver(), true);
         EnclosureReferee y = Boards.started(4, 4, 0);
         for (int cell = 0; cell < 15; cell++) {
             y.play(cell, cell);

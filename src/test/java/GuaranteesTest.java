@@ -12,6 +12,7 @@ public final class GuaranteesTest {
         guaranteeRefuses();
         deep();
         deepEnds();
+        passingEnds();
         best();
         bestRefuses();
         CHECK.end();
@@ -75,7 +76,7 @@ public final class GuaranteesTest {
         CHECK.refused("over", IllegalStateException.class, () -> x.guarantee(0, 3, 1));
     }
 
-    /** A board of 4 by 4 where only b3, c3, c4, d4 and the like are empty; the other cells are blocks. */
+    /** A board of 4 by 4 where only the named cells are empty; the other ones are blocks. */
     private static EnclosureReferee nearlyFull(String empties) {
         EnclosureReferee x = Boards.started(4, 4, 0);
         for (int cell = 0; cell < 16; cell++) {
@@ -92,24 +93,24 @@ public final class GuaranteesTest {
         CHECK.refused("seven empty cells", IllegalStateException.class, () -> x.guarantee(0, 5, 2));
         CHECK.refused("best with seven empty cells", IllegalStateException.class, () -> x.best(0, 2));
         Boards.play(x, "d3 -");
-        CHECK.same("six empty cells: c3 closes two", x.guarantee(0, 10, 2), deepByHand(x, 10));
-        CHECK.same("passing", x.guarantee(0, -1, 2), deepByHand(x, -1));
-        CHECK.same("b2", x.guarantee(0, 5, 2), deepByHand(x, 5));
-        CHECK.same("b4", x.guarantee(0, 13, 2), deepByHand(x, 13));
+        CHECK.same("six empty cells", x.guarantee(0, 10, 2), deepByHand(x, 0, 10));
+        CHECK.same("passing", x.guarantee(0, -1, 2), deepByHand(x, 0, -1));
+        CHECK.same("b2", x.guarantee(0, 5, 2), deepByHand(x, 0, 5));
+        CHECK.same("b4", x.guarantee(0, 13, 2), deepByHand(x, 0, 13));
     }
 
     /** The depth 2 as the document says it, played out with the rounds themselves. */
-    private static int deepByHand(EnclosureReferee x, int choice) {
+    private static int deepByHand(EnclosureReferee x, int player, int choice) {
         int least = Integer.MAX_VALUE;
         for (int reply = -1; reply < 16; reply++) {
             if (reply == -1 || (x.cells(0) >> reply & 1) != 0) {
-                x.play(choice, reply);
-                int value = x.player(0, 0) - x.player(1, 0);
+                x.play(player == 0 ? choice : reply, player == 0 ? reply : choice);
+                int value = x.player(player, 0) - x.player(1 - player, 0);
                 if (!x.isOver()) {
                     value = Integer.MIN_VALUE;
                     for (int next = -1; next < 16; next++) {
                         if (next == -1 || (x.cells(0) >> next & 1) != 0) {
-                            value = Math.max(value, x.guarantee(0, next, 1));
+                            value = Math.max(value, x.guarantee(player, next, 1));
                         }
                     }
                 }
@@ -120,24 +121,33 @@ public final class GuaranteesTest {
         return least;
     }
 
-    /** With c3 and b3 walled but for b4, a stone there is worth points in a round that may not come. */
+    /** In the round after the next one, player 1 would lose 6 points; it does not come if the game ends before. */
     private static void deepEnds() {
-        EnclosureReferee x = nearlyFull("b3 b4 a1");
-        x.undo();
-        x.undo();
-        Boards.play(x, "- d4");
+        EnclosureReferee x = Boards.started(4, 4, 0);
+        Boards.play(x, "b2 b2, a4 a4, c4 d4, b1 b1, c1 d1, d3 a1, a3 c3");
+        CHECK.same("the board", Boards.drawn(x), "O#XO/.#../X.OX/#.XO");
         x.setRule(1);
-        CHECK.same("both pass, and the game ends", x.guarantee(0, -1, 2), deepByHand(x, -1));
-        int filler = 60 - x.count(0) - 1;
-        for (int round = 0; round < filler; round++) {
-            Boards.play(x, "a1 a1");
+        CHECK.same("depth 1", x.guarantee(1, 6, 1), 0);
+        CHECK.same("depth 2", x.guarantee(1, 6, 2), -6);
+        CHECK.same("depth 2 played out", deepByHand(x, 1, 6), -6);
+        while (x.count(0) < 58) {
+            Boards.play(x, "a2 a2");
         }
-        CHECK.same("59 rounds", x.count(0), 59);
-        CHECK.same("after the 60th the game is over", x.guarantee(0, 0, 2), x.guarantee(0, 0, 1));
-        CHECK.same("played out", x.guarantee(0, 0, 2), deepByHand(x, 0));
+        CHECK.same("58 rounds", x.guarantee(1, 6, 2), -6);
+        Boards.play(x, "a2 a2");
+        CHECK.same("59 rounds", x.guarantee(1, 6, 2), 0);
         EnclosureReferee y = nearlyFull("a1 b2");
-        CHECK.same("the last cells", y.guarantee(0, 0, 2), deepByHand(y, 0));
-        CHECK.same("the last cells of the middle", y.guarantee(0, 5, 2), deepByHand(y, 5));
+        CHECK.same("the last cells", y.guarantee(0, 0, 2), deepByHand(y, 0, 0));
+        CHECK.same("the last cells of the middle", y.guarantee(0, 5, 2), deepByHand(y, 0, 5));
+    }
+
+    /** A stone in b2 would be lost, but after both have passed nobody has to place it. */
+    private static void passingEnds() {
+        EnclosureReferee x = nearlyFull("b2");
+        CHECK.same("no later round", x.guarantee(0, -1, 2), 0);
+        CHECK.same("played out", deepByHand(x, 0, -1), 0);
+        x.setBonus(1, 3);
+        CHECK.same("with a bonus", x.guarantee(1, -1, 2), 3);
     }
 
     private static void best() {

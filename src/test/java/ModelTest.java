@@ -20,6 +20,7 @@ public final class ModelTest {
         for (int run = 0; run < RUNS; run++) {
             new ModelTest(run).run(run);
         }
+        new ModelTest(RUNS).extremes();
         CHECK.end();
     }
 
@@ -44,10 +45,64 @@ public final class ModelTest {
     private void run(int run) {
         int side = dice.oneIn(2) ? 4 : 4 + dice.below(4);
         begin(side, dice.oneIn(2) ? side : 4 + dice.below(4), dice.below(5));
-        for (int call = 1; call < CALLS; call++) {
+        int before = run % 6 == 5 ? fillRounds(40 + dice.below(19)) : 0;
+        for (int call = 1 + before; call < CALLS; call++) {
             label = "run " + run + ", call " + call + ": ";
             step();
         }
+    }
+
+    /** Numbers from the ends of int, and those that shifts of a long would take for others. */
+    private void extremes() {
+        int[] numbers = {
+            Integer.MIN_VALUE, Integer.MIN_VALUE + 1, -64, -2, -1, 0, 1, 2, 3, 7, 12, 63, 64, 65, 1 << 30,
+            Integer.MAX_VALUE - 1, Integer.MAX_VALUE,
+        };
+        label = "extremes: ";
+        for (int a : numbers) {
+            one(a);
+            for (int b : numbers) {
+                two(a, b);
+                for (int c : numbers) {
+                    same("guarantee(" + a + ", " + b + ", " + c + ")",
+                            () -> referee.guarantee(a, b, c), () -> model.guarantee(a, b, c));
+                    begin(a, b, c);
+                }
+            }
+        }
+        compareState();
+    }
+
+    private void one(int a) {
+        same("setRule(" + a + ")", () -> referee.setRule(a), () -> model.setRule(a));
+        same("count(" + a + ")", () -> referee.count(a), () -> model.count(a));
+        same("cells(" + a + ")", () -> referee.cells(a), () -> model.cells(a));
+        same("chain(" + a + ")", () -> referee.chain(a), () -> model.chain(a));
+        same("share(" + a + ")", () -> (long) (100 * referee.share(a)), () -> (long) (100 * model.share(a)));
+        same("written(" + a + ")", () -> referee.written(a), () -> model.written(a));
+    }
+
+    private void two(int a, int b) {
+        String both = "(" + a + ", " + b + ")";
+        same("setBonus" + both, () -> referee.setBonus(a, b), () -> model.setBonus(a, b));
+        same("play" + both, () -> referee.play(a, b), () -> model.play(a, b));
+        same("cell" + both, () -> referee.cell(a, b), () -> model.cell(a, b));
+        same("since" + both, () -> referee.since(a, b), () -> model.since(a, b));
+        same("player" + both, () -> referee.player(a, b), () -> model.player(a, b));
+        same("region" + both, () -> referee.region(a, b), () -> model.region(a, b));
+        same("stonesToEnclose" + both, () -> referee.stonesToEnclose(a, b), () -> model.stonesToEnclose(a, b));
+        same("round" + both, () -> referee.round(a, b), () -> model.round(a, b));
+        same("best" + both, () -> referee.best(a, b), () -> model.best(a, b));
+        same("report" + both, () -> referee.report(a, b), () -> model.report(a, b));
+    }
+
+    /** Clashes without effect, so that some games come to their last rounds with empty cells. */
+    private int fillRounds(int rounds) {
+        same("setRule(1)", () -> referee.setRule(1), () -> model.setRule(1));
+        for (int round = 0; round < rounds; round++) {
+            same("play(0, 0)", () -> referee.play(0, 0), () -> model.play(0, 0));
+        }
+        return rounds + 1;
     }
 
     private void begin(int width, int height, int handicap) {

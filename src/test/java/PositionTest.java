@@ -102,6 +102,10 @@ public final class PositionTest {
             CHECK.same("player(0, " + what + ")", x.player(0, what), of0[what]);
             CHECK.same("player(1, " + what + ")", x.player(1, what), of1[what]);
         }
+        EnclosureReferee z = new EnclosureReferee();
+        Boards.play(z, "a1 -, - b1, - c1, - -");
+        CHECK.same("passes of player 0", z.player(0, 5), 3);
+        CHECK.same("passes of player 1", z.player(1, 5), 2);
         CHECK.refused("player 2", IndexOutOfBoundsException.class, () -> x.player(2, 0));
         CHECK.refused("player -1", IndexOutOfBoundsException.class, () -> x.player(-1, 8));
         CHECK.refused("what 8", IllegalArgumentException.class, () -> x.player(0, 8));

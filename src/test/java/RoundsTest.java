@@ -59,6 +59,15 @@ public final class RoundsTest {
         x.undo();
         x.undo();
         CHECK.same("taken back", x.turningPoint(), 0);
+        EnclosureReferee y = new EnclosureReferee();
+        Boards.play(y, "a1 c2, c3 b3, e1 d3, a5 c4, b1 e5");
+        CHECK.same("the capture of player 1", y.turningPoint(), 3);
+        y.undo();
+        y.setBonus(1, 10);
+        Boards.play(y, "b1 e5");
+        CHECK.same("a bonus of player 1", y.turningPoint(), 0);
+        y.setBonus(1, 0);
+        CHECK.same("the bonus in the later round", y.turningPoint(), 4);
         CHECK.refused("taken back and started", NoSuchElementException.class, () -> {
             x.start(4, 4, 0);
             return x.turningPoint();

@@ -9,6 +9,7 @@ public final class SnapshotsTest {
         save();
         restore();
         restoreAgain();
+        restoreOverOtherRounds();
         restoreOnAnotherBoard();
         restoreLeaves();
         CHECK.end();
@@ -71,6 +72,45 @@ public final class SnapshotsTest {
         Boards.play(x, "e5 d5");
         CHECK.same("rounds after the saved ones", x.restore(), 4);
         CHECK.same("are gone", x.cell(4, 4), 0);
+    }
+
+    /** The rounds that are saved are played over by others, so that all of them must come from what was saved. */
+    private static void restoreOverOtherRounds() {
+        EnclosureReferee x = Boards.withStruggle();
+        String before = allOf(x);
+        x.save();
+        x.start(5, 5, 1);
+        x.setRule(1);
+        for (int round = 0; round < 12; round++) {
+            x.setBonus(round % 2, round);
+            Boards.play(x, round % 3 == 0 ? "- a1" : "c3 c3");
+            if (round % 3 == 0) {
+                x.undo();
+                Boards.play(x, "e5 e5");
+            }
+        }
+        CHECK.same("nine rounds", x.restore(), 9);
+        CHECK.same("all of them", allOf(x), before);
+        while (x.count(0) > 4) {
+            x.undo();
+        }
+        CHECK.same("the board after four of them", Boards.drawn(x), "...../.###./#..../...../.....");
+    }
+
+    private static String allOf(EnclosureReferee x) {
+        StringBuilder text = new StringBuilder(Boards.drawn(x) + Boards.written(x));
+        for (int cell = 0; cell < 25; cell++) {
+            text.append(' ').append(x.since(cell, 0)).append(',').append(x.since(cell, 1));
+        }
+        for (int round = 0; round < x.count(0); round++) {
+            for (int what = 0; what < 7; what++) {
+                text.append(' ').append(x.round(round, what));
+            }
+        }
+        for (int what = 0; what < 8; what++) {
+            text.append(' ').append(x.player(0, what)).append(',').append(x.player(1, what));
+        }
+        return text.toString();
     }
 
     private static void restoreOnAnotherBoard() {
