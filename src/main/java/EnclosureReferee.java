@@ -227,7 +227,7 @@ public final class EnclosureReferee {
     }
 
     public int round(int round, int what) throws IndexOutOfBoundsException, IllegalArgumentException {
-        if (round < 0 || round >= game.played) {
+        if (round < 0 || round >= game.played || round >= MAX_ROUNDS) {
             throw new IndexOutOfBoundsException("no such round");
         }
         Round part = game.rounds[round];
@@ -301,7 +301,7 @@ public final class EnclosureReferee {
     }
 
     public int report(int level, int what) throws NoSuchElementException, IllegalArgumentException {
-        if (level < 0 || level >= refusal.height) {
+        if (level < 0 || level >= refusal.height || level >= MAX_LEVELS) {
             throw new NoSuchElementException("no such level");
         }
         switch (what) {
@@ -341,7 +341,7 @@ public final class EnclosureReferee {
 
     public char written(int i) throws IndexOutOfBoundsException {
         int offset = i;
-        for (int round = 0; round < game.played && offset >= 0; round++) {
+        for (int round = 0; round < game.played && round < MAX_ROUNDS && offset >= 0; round++) {
             Round part = game.rounds[round];
             if (offset < part.signs()) {
                 return part.sign(game.board, offset);

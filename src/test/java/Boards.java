@@ -87,6 +87,82 @@ final class Boards {
         return referee;
     }
 
+    /** A board as drawn() draws it, of stones and blocks that capture nothing while they are placed in this order. */
+    static EnclosureReferee placed(String drawing) {
+        String signs = drawing.replace("/", "");
+        int width = drawing.indexOf('/');
+        EnclosureReferee referee = started(width, signs.length() / width, 0);
+        for (int cell = signs.indexOf('#'); cell >= 0; cell = signs.indexOf('#', cell + 1)) {
+            referee.play(cell, cell);
+        }
+        int first = signs.indexOf('X');
+        int second = signs.indexOf('O');
+        while (first >= 0 || second >= 0) {
+            referee.play(first, second);
+            first = first < 0 ? first : signs.indexOf('X', first + 1);
+            second = second < 0 ? second : signs.indexOf('O', second + 1);
+        }
+        if (!drawn(referee).equals(drawing)) {
+            throw new IllegalStateException("it became " + drawn(referee));
+        }
+        return referee;
+    }
+
+    /** A board of 4 by 4 where only the named cells are empty; the other ones are blocks. */
+    static EnclosureReferee nearlyFull(String empties) {
+        EnclosureReferee referee = started(4, 4, 0);
+        for (int cell = 0; cell < 16; cell++) {
+            String name = "" + (char) ('a' + cell % 4) + (char) ('1' + cell / 4);
+            if (!empties.contains(name)) {
+                referee.play(cell, cell);
+            }
+        }
+        return referee;
+    }
+
+    /** A game on 4 by 4 cells with so many rounds in which nothing happens but a clash on the first cell. */
+    static EnclosureReferee idle(int rounds) {
+        EnclosureReferee referee = started(4, 4, 0);
+        referee.setRule(1);
+        for (int round = 0; round < rounds; round++) {
+            referee.play(0, 0);
+        }
+        return referee;
+    }
+
+    /** A game in its middle with something in all that a referee holds, a saved game and a report among them. */
+    static EnclosureReferee busy() {
+        EnclosureReferee referee = withCapture();
+        referee.setBonus(0, 3);
+        referee.setBonus(1, 2);
+        play(referee, "e5 e5");
+        referee.save();
+        play(referee, "d5 -");
+        referee.setRule(2);
+        referee.setBonus(1, 4);
+        try {
+            referee.play(12, 0);
+        } catch (UnsupportedOperationException e) {
+            feed(referee, "-");
+        }
+        return referee;
+    }
+
+    /** The same game after both have passed. */
+    static EnclosureReferee over() {
+        EnclosureReferee referee = busy();
+        play(referee, "- -");
+        return referee;
+    }
+
+    /** The same game with 80 characters in the buffer, which are a record of 17 rounds. */
+    static EnclosureReferee withFullBuffer() {
+        EnclosureReferee referee = busy();
+        referee.setRule(1);
+        feed(referee, "b1;" + "c1c1;".repeat(12) + "-d1;-a2;-b2;-d2;");
+        return referee;
+    }
+
     /** The cells b3, c3 and d3 with blocks all around them. */
     static EnclosureReferee walled() {
         EnclosureReferee referee = new EnclosureReferee();

@@ -4,6 +4,14 @@ final class Check {
         long answer();
     }
 
+    interface Making {
+        EnclosureReferee referee();
+    }
+
+    interface Asking {
+        long of(EnclosureReferee referee);
+    }
+
     private final String test;
     private int wrong = 0;
     private int checked = 0;
@@ -47,6 +55,21 @@ final class Check {
                 tell(what + " threw " + e + ", due is " + want.getSimpleName());
             }
         }
+    }
+
+    /** The call is refused, and then all that can be asked of the referee is as without the call. */
+    void leavesAll(String what, Class<? extends RuntimeException> want, Making making, Asking asking) {
+        EnclosureReferee asked = making.referee();
+        refused(what, want, () -> asking.of(asked));
+        same("what " + what + " leaves", State.of(asked), State.of(making.referee()));
+    }
+
+    /** The same for a refused round that leaves the report that is due. */
+    void leavesReport(String what, String report, Making making, Asking asking) {
+        EnclosureReferee asked = making.referee();
+        refused(what, UnsupportedOperationException.class, () -> asking.of(asked));
+        same("the report of " + what, Boards.report(asked), report);
+        same("what " + what + " leaves beside the report", State.butReport(asked), State.butReport(making.referee()));
     }
 
     private void tell(String text) {

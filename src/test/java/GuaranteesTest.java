@@ -76,20 +76,8 @@ public final class GuaranteesTest {
         CHECK.refused("over", IllegalStateException.class, () -> x.guarantee(0, 3, 1));
     }
 
-    /** A board of 4 by 4 where only the named cells are empty; the other ones are blocks. */
-    private static EnclosureReferee nearlyFull(String empties) {
-        EnclosureReferee x = Boards.started(4, 4, 0);
-        for (int cell = 0; cell < 16; cell++) {
-            String name = "" + (char) ('a' + cell % 4) + (char) ('1' + cell / 4);
-            if (!empties.contains(name)) {
-                x.play(cell, cell);
-            }
-        }
-        return x;
-    }
-
     private static void deep() {
-        EnclosureReferee x = nearlyFull("b2 b3 b4 c4 d4 c3 d3");
+        EnclosureReferee x = Boards.nearlyFull("b2 b3 b4 c4 d4 c3 d3");
         CHECK.refused("seven empty cells", IllegalStateException.class, () -> x.guarantee(0, 5, 2));
         CHECK.refused("best with seven empty cells", IllegalStateException.class, () -> x.best(0, 2));
         Boards.play(x, "d3 -");
@@ -136,14 +124,14 @@ public final class GuaranteesTest {
         CHECK.same("58 rounds", x.guarantee(1, 6, 2), -6);
         Boards.play(x, "a2 a2");
         CHECK.same("59 rounds", x.guarantee(1, 6, 2), 0);
-        EnclosureReferee y = nearlyFull("a1 b2");
+        EnclosureReferee y = Boards.nearlyFull("a1 b2");
         CHECK.same("the last cells", y.guarantee(0, 0, 2), deepByHand(y, 0, 0));
         CHECK.same("the last cells of the middle", y.guarantee(0, 5, 2), deepByHand(y, 0, 5));
     }
 
     /** A stone in b2 would be lost, but after both have passed nobody has to place it. */
     private static void passingEnds() {
-        EnclosureReferee x = nearlyFull("b2");
+        EnclosureReferee x = Boards.nearlyFull("b2");
         CHECK.same("no later round", x.guarantee(0, -1, 2), 0);
         CHECK.same("played out", deepByHand(x, 0, -1), 0);
         x.setBonus(1, 3);
@@ -158,11 +146,11 @@ public final class GuaranteesTest {
         CHECK.same("only the clash helps", x.best(1, 1), 17);
         EnclosureReferee y = new EnclosureReferee();
         CHECK.same("a cell before passing", y.best(0, 1), 0);
-        EnclosureReferee z = nearlyFull("b2");
+        EnclosureReferee z = Boards.nearlyFull("b2");
         CHECK.same("a stone in walls is lost", z.guarantee(0, 5, 1), -1);
         CHECK.same("passing is better", z.best(0, 1), -1);
         CHECK.same("for the other too, and deeper", z.best(1, 2), -1);
-        EnclosureReferee w = nearlyFull("b2 a1");
+        EnclosureReferee w = Boards.nearlyFull("b2 a1");
         CHECK.same("as good as passing", w.best(0, 2), 0);
     }
 

@@ -111,15 +111,7 @@ public final class ModelTest {
     }
 
     private void same(String what, Check.Call got, Check.Call want) {
-        CHECK.same(label + what, answer(got), answer(want));
-    }
-
-    private static String answer(Check.Call call) {
-        try {
-            return "" + call.answer();
-        } catch (RuntimeException e) {
-            return e.getClass().getSimpleName();
-        }
+        CHECK.same(label + what, Answer.of(got), Answer.of(want));
     }
 
     private void step() {
