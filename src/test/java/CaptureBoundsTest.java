@@ -18,6 +18,7 @@ public final class CaptureBoundsTest {
         cellsAtTheEdge();
         ringWithAGap();
         ownCellsAreNotInRegions();
+        notContainedInTheOther();
         samePosition();
         largerByOneCell();
         sameSize();
@@ -210,7 +211,10 @@ public final class CaptureBoundsTest {
         return ring;
     }
 
-    /** "neither its own cells nor blocks": own areas wall as stones do, and those of the other do not. */
+    /**
+     * "Stones and areas of a player are its own cells." and its regions hold "neither its own cells nor blocks": own
+     * areas wall as stones do, and those of the other do not.
+     */
     private static void ownCellsAreNotInRegions() {
         EnclosureReferee x = Boards.withCapture();
         CHECK.same("in a region of player 1", x.region(1, 12) >> 12 & 1, 1);
@@ -219,6 +223,19 @@ public final class CaptureBoundsTest {
         CHECK.same("a cross with its area", Boards.play(x, "- c5"), 5);
         CHECK.same("all of it", Boards.drawn(x), "O.O.O/.OoO./OoooO/.OoO./O.O..");
         CHECK.same("four stones", x.player(1, 3), 4);
+    }
+
+    /**
+     * "Each cell of a region that is enclosed by one player, and not contained in a region that is enclosed by the
+     * other one, becomes area of this player": here the two ends of four cells, while the shared ones are as many for both.
+     */
+    private static void notContainedInTheOther() {
+        EnclosureReferee x = Boards.placed("....../.####./#....#/.####./......");
+        CHECK.same("only the ends, eight times", Boards.play(x, "b3 e3"), 16);
+        CHECK.same("the shared ones stay", Boards.drawn(x), "....../.####./#x..o#/.####./......");
+        EnclosureReferee y = Boards.placed(".X.../X.X../..O../.O.O./.....");
+        CHECK.same("a region of each alone", Boards.play(y, "b3 c5"), 2);
+        CHECK.same("both areas", Boards.drawn(y), ".X.../XxX../.XO../.OoO./..O..");
     }
 
     /** "the enclosed regions of both players are found on the same position": both capture in one wave. */

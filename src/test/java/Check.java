@@ -57,7 +57,10 @@ final class Check {
         }
     }
 
-    /** The call is refused, and then all that can be asked of the referee is as without the call. */
+    /**
+     * "A method that throws an exception or returns an error code leaves the state unchanged": all that can be asked of
+     * a referee that refused the call is as it is without the call.
+     */
     void leavesAll(String what, Class<? extends RuntimeException> want, Making making, Asking asking) {
         EnclosureReferee asked = making.referee();
         refused(what, want, () -> asking.of(asked));

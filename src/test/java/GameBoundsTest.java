@@ -53,7 +53,7 @@ public final class GameBoundsTest {
                 State.of(new EnclosureReferee()), State.of(Boards.started(5, 5, 0)));
     }
 
-    /** "An object is used for at most 512 calls after it has been made" */
+    /** "An object is used for at most 512 calls": the last of them answers as any other. */
     private static void lastCall() {
         EnclosureReferee x = new EnclosureReferee();
         x.setRule(1);

@@ -56,6 +56,9 @@ public final class RecordBoundsTest {
         CHECK.leavesAll("character 81", IllegalStateException.class, Boards::withFullBuffer, x -> x.feed('-'));
         CHECK.leavesAll("an odd character 81", IllegalStateException.class, Boards::withFullBuffer,
                 x -> x.feed((char) 0xffff));
+        EnclosureReferee y = Boards.withFullBuffer();
+        CHECK.refused("one more", IllegalStateException.class, () -> y.feed('-'));
+        CHECK.same("the 80 are read as they were", y.readRecord(), 17);
         EnclosureReferee x = new EnclosureReferee();
         CHECK.same("79 characters", Boards.feed(x, "-".repeat(79)), 79);
         CHECK.same("character 80", x.feed('-'), 80);
