@@ -210,9 +210,10 @@ public final class PositionBoundsTest {
      */
     private static void numbersOfEachPlayer() {
         EnclosureReferee x = Boards.withStruggle();
-        Boards.play(x, "a1 b1, c1 -");
-        int[] of0 = {3, 2, 1, 1};
-        int[] of1 = {3, 1, 1, 1};
+        Boards.play(x, "c3 -, a1 b1, - c1, - d1");
+        CHECK.same("c3 was captured", Boards.drawn(x), "XOOO./.###./#xxo#/.###./.....");
+        int[] of0 = {2 + 2 * 1, 1, 2, 1};
+        int[] of1 = {1 + 2 * 2, 3, 1, 2};
         for (int what = 0; what < 4; what++) {
             CHECK.same("number " + what + " of 0", x.player(0, what), of0[what]);
             CHECK.same("number " + what + " of 1", x.player(1, what), of1[what]);
